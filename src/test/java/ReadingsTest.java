@@ -11,6 +11,7 @@ public final class ReadingsTest {
         alikeAndForged();
         behind();
         goneAndSafe();
+        goneIsLived();
         becomesAndKept();
         whose();
         feeAndFine();
@@ -214,6 +215,32 @@ public final class ReadingsTest {
         due.is("no surfaces", empty.safe(0, 0), NONE);
         empty.sheet(0, 0, 13);
         due.is("no surfaces, too many places", empty.safe(0, 0), SIZE);
+    }
+
+    /** A row on a dry cloth that is seldom swept, up to the two hundredth day and beyond. */
+    private static void goneIsLived() {
+        int onTheLastDay = 0;
+        int notByThen = 0;
+        for (int seed = 0; seed < 3000; seed++) {
+            DustLayers x = still(4);
+            x.seed(seed * 7919);
+            x.rule(0, 1);
+            x.settles(0, 1);
+            Due.row(x, 0, 0, 1);
+            int thought = x.gone(0, 0);
+            int safe = x.safe(0, 1);
+            int day = 0;
+            while (day <= 200 && x.lies(0) == 1) {
+                x.days(1);
+                day++;
+            }
+            due.is("gone, seed " + seed, thought, day > 200 ? NONE : day);
+            due.is("safe, seed " + seed, safe, day);
+            onTheLastDay += day == 200 ? 1 : 0;
+            notByThen += day == 201 ? 1 : 0;
+        }
+        due.is("some are gone on the last day", onTheLastDay > 0 ? 1 : 0, 1);
+        due.is("some are not by then", notByThen > 0 ? 1 : 0, 1);
     }
 
     private static void becomesAndKept() {

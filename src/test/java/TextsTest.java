@@ -60,6 +60,16 @@ public final class TextsTest {
         fault("Lift n", 0);
         fault(" + lift n", 1);
         fault("liftn", 0);
+        fault("lifta n", 0);
+        fault("liftz n", 0);
+        fault("nift n", 0);
+        fault("gee s", 0);
+        fault("line n", 0);
+        fault("lift`n", 4);
+        fault("lift{n", 4);
+        fault("lift/1", 4);
+        fault("lift:1", 4);
+        fault("lift 1:", 6);
         fault("lift2", 4);
         right("lift 2");
         right("lift(2)");
