@@ -11,6 +11,22 @@ final class Due {
         }
     }
 
+    void isNot(String call, int got, int not) {
+        seen++;
+        if (got == not) {
+            wrong++;
+            System.out.println(call + " answered " + got + ", which is not due");
+        }
+    }
+
+    void same(String what, Object got, Object want) {
+        seen++;
+        if (!got.equals(want)) {
+            wrong++;
+            System.out.println(what + ": " + got + ", due is " + want);
+        }
+    }
+
     void end(String name) {
         System.out.println(name + ": " + seen + " answers, " + wrong + " not as due");
         if (wrong != 0) {
