@@ -20,6 +20,8 @@ public final class HallEdgesTest {
         sweptOfMoreThanThereIs();
         liftedOut();
         turnsKeepsAllElse();
+        dampBroomAndDraught();
+        settlesWhateverItCatches();
         noneIsThere();
         roomForAFew();
         drawsWrap();
@@ -345,6 +347,37 @@ public final class HallEdgesTest {
         }
     }
 
+    private static void dampBroomAndDraught() {
+        DustLayers x = of(0, CLOTH);
+        for (int v = 1; v <= 9; v++) {
+            due.is("what DAMP was", x.damp(0, v), v - 1);
+            due.is("DAMP", x.told(0, 1), v);
+        }
+        due.is("from 9 to 0", x.damp(0, 0), 9);
+        due.is("DAMP", x.told(0, 1), 0);
+        DustLayers y = of(0);
+        for (int v = 1; v <= 100; v++) {
+            due.is("what BROOM was", y.rule(0, v), v - 1);
+            due.is("DRAUGHT stays", y.count(3), 0);
+        }
+        for (int v = 1; v <= 100; v++) {
+            due.is("what DRAUGHT was", y.rule(1, v), v - 1);
+            due.is("BROOM stays", y.count(2), 100);
+        }
+        due.is("from 100 to 0", y.rule(1, 0), 100);
+        due.is("from 100 to 100", y.rule(0, 100), 100);
+    }
+
+    private static void settlesWhateverItCatches() {
+        DustLayers x = of(0, 0, 1, 2, 3, 4, 5);
+        for (int kind = 0; kind < 6; kind++) {
+            for (int deed = 0; deed < 10; deed++) {
+                due.is("DEED " + deed + " on KIND " + kind, x.settles(kind, deed), deed + 1);
+            }
+            layers("all SETTLE on KIND " + kind, x, kind, 0, 1, 2, 3, 4, 5, 6, 7, 8, 9);
+        }
+    }
+
     private static void noneIsThere() {
         DustLayers x = of(0, SHELF);
         due.is("of no LAYERS the oldest", x.layer(0, 0), NONE);
@@ -607,8 +640,10 @@ public final class HallEdgesTest {
             due.is("no draws", x.count(7), z);
             due.is("no LAYERS", x.told(0, 2), 10);
         }
-        due.is("BAD on the last day, too", x.days(0), BAD);
-        due.is("BAD on the last day, too", x.days(101), BAD);
+        Refused last = new Refused(due, "the last day", Refused::lastDay);
+        last.range("14: days", 1, 100, (y, v) -> y.days(v));
+        last.by("14: no more DAYS", 0, y -> y.days(1));
+        last.by("14: no more DAYS", 0, y -> y.days(100));
     }
 
     private static void fewerDaysThanAsked() {

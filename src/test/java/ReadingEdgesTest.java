@@ -16,10 +16,13 @@ public final class ReadingEdgesTest {
         commonOfNone();
         commonOfTwelve();
         commonOfSeveral();
+        oneLayerCountsOnce();
+        everyShortRow();
         hidingEdges();
         noTwo();
         alikeOfSeveral();
         forgedOfSeveral();
+        anyOneOfEight();
         behindNoDays();
         onlyThought();
         beyondTheLastDay();
@@ -260,6 +263,98 @@ public final class ReadingEdgesTest {
         }
     }
 
+    private static void oneLayerCountsOnce() {
+        DustLayers x = still(SHELF, SHELF);
+        Due.settle(x, 0, 5);
+        Due.settle(x, 1, 5, 5, 5, 5, 5, 5, 5, 5, 5, 5, 5, 5);
+        due.is("one against twelve alike", x.common(0, 1, -1), 1);
+        due.is("twelve alike against one", x.common(1, 0, -1), 1);
+        due.is("no second", x.common(1, 0, 1), NONE);
+        due.is("ALIKE", x.alike(1), 1);
+        due.is("FORGED", x.forged(1), 1);
+    }
+
+    /** All rows of up to three of three DEEDS against all others, by trying every part of the one. */
+    private static void everyShortRow() {
+        for (int one = 0; one < 40; one++) {
+            for (int other = 0; other < 40; other++) {
+                int[] a = shortRow(one);
+                int[] b = shortRow(other);
+                DustLayers x = still(SHELF, SHELF);
+                Due.settle(x, 0, a);
+                Due.settle(x, 1, b);
+                Due.row(x, 0, 0, b);
+                String common = commonByTrying(a, b);
+                due.is("COMMON", x.common(0, 1, -1), common.length());
+                for (int k = 0; k < 4; k++) {
+                    due.is("COMMON, place " + k, x.common(0, 1, k), k < common.length() ? common.charAt(k) - '0' : NONE);
+                }
+                due.is("LIES", x.lies(0) & 1, part(b, a) ? 1 : 0);
+                due.is("HIDING", x.hiding(0, 0), b.length == 0 ? NONE : hidingByTrying(a, b));
+            }
+        }
+    }
+
+    /** Numbers 0 .. 39: no DEEDS, one, two, three of 0 .. 2. */
+    private static int[] shortRow(int number) {
+        int many = number == 0 ? 0 : number < 4 ? 1 : number < 13 ? 2 : 3;
+        int rest = number - new int[] {0, 1, 4, 13}[many];
+        int[] row = new int[many];
+        for (int k = 0; k < many; k++) {
+            row[k] = rest % 3;
+            rest /= 3;
+        }
+        return row;
+    }
+
+    private static int[] partOf(int[] row, int set) {
+        int[] part = new int[Integer.bitCount(set)];
+        int many = 0;
+        for (int k = 0; k < row.length; k++) {
+            if ((set >> k & 1) != 0) {
+                part[many] = row[k];
+                many++;
+            }
+        }
+        return part;
+    }
+
+    private static boolean part(int[] row, int[] of) {
+        for (int set = 0; set < 1 << of.length; set++) {
+            if (java.util.Arrays.equals(partOf(of, set), row)) {
+                return true;
+            }
+        }
+        return false;
+    }
+
+    private static String commonByTrying(int[] a, int[] b) {
+        String best = "";
+        for (int set = 0; set < 1 << a.length; set++) {
+            int[] row = partOf(a, set);
+            StringBuilder text = new StringBuilder();
+            for (int deed : row) {
+                text.append(deed);
+            }
+            boolean first = row.length > best.length() || row.length == best.length() && text.toString().compareTo(best) < 0;
+            if (first && part(row, b)) {
+                best = text.toString();
+            }
+        }
+        return best;
+    }
+
+    private static int hidingByTrying(int[] layers, int[] row) {
+        int fewest = layers.length;
+        for (int set = 0; set < 1 << layers.length; set++) {
+            int[] left = partOf(layers, set);
+            if (!part(row, left)) {
+                fewest = Math.min(fewest, layers.length - left.length);
+            }
+        }
+        return fewest;
+    }
+
     private static void hidingEdges() {
         DustLayers x = still(SHELF, SHELF);
         for (int k = 0; k < 12; k++) {
@@ -329,6 +424,34 @@ public final class ReadingEdgesTest {
         x.lifts(7, 0);
         due.is("the least lengths", x.forged(0), 7);
         due.is("seven times ten", x.forged(1), 70);
+    }
+
+    /** Each SURFACE, and each two, can be the answer. */
+    private static void anyOneOfEight() {
+        for (int one = 0; one < 8; one++) {
+            DustLayers x = still(0, 0, 0, 0, 0, 0, 0, 0);
+            for (int k = 0; k < 8; k++) {
+                Due.settle(x, k, k == one ? new int[] {1} : new int[] {1, 2});
+            }
+            due.is("FORGED", x.forged(0), one);
+            due.is("FORGED", x.forged(1), 7);
+            Due.row(x, 0, 0, 1);
+            due.is("WHOSE", x.whose(0, 0), one);
+            x.turns(one, CLOTH);
+            due.is("SAFE", x.safe(0, 0), one);
+            for (int other = one + 1; other < 8; other++) {
+                DustLayers y = still(0, 0, 0, 0, 0, 0, 0, 0);
+                y.settles(one, 9);
+                y.settles(other, 9);
+                due.is("ALIKE", y.alike(0), 10 * one + other);
+                due.is("LIES", lies(y, 9), 1 << one | 1 << other);
+            }
+        }
+    }
+
+    private static int lies(DustLayers x, int deed) {
+        Due.row(x, 0, 0, deed);
+        return x.lies(0);
     }
 
     // ---- what will be

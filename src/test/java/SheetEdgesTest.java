@@ -33,6 +33,7 @@ public final class SheetEdgesTest {
         checkedByTheImage();
         noImage();
         backAgainAndAgain();
+        newBehindBack();
         imageKeepsNot();
         imageOfAnImage();
         countsAll();
@@ -593,6 +594,33 @@ public final class SheetEdgesTest {
             due.same("as THE IMAGE", Refused.seen(Refused.Side.HALL, x), was);
             due.is("fine", x.fine(0), x.told(0, 2));
         }
+    }
+
+    /** A SURFACE that comes where another one was is a new one. */
+    private static void newBehindBack() {
+        DustLayers x = new DustLayers();
+        x.keep();
+        x.surface(3, 9);
+        for (int k = 0; k < 14; k++) {
+            x.settles(0, 8);
+        }
+        x.back();
+        due.is("none is PRESSED", x.hall(2), 0);
+        due.is("its number", x.surface(1, 2), 0);
+        int[] told = {1, 2, 0, 0};
+        for (int what = 0; what < 4; what++) {
+            due.is("told " + what, x.told(0, what), told[what]);
+        }
+        due.is("no LAYERS", x.layer(0, 0), NONE);
+        x.back();
+        x.surface(3, 9);
+        for (int k = 0; k < 14; k++) {
+            x.settles(0, 8);
+        }
+        x.back();
+        x.deal(1);
+        due.is("a drawn one, too", x.told(0, 2), 0);
+        due.is("a drawn one, too", x.told(0, 3), 0);
     }
 
     private static void imageKeepsNot() {
