@@ -25,11 +25,13 @@ public final class FaceTest {
     private static final Pattern RULED_OUT = Pattern.compile(
             "\\b(throw|throws|try|catch|synchronized|assert|double\\[|NaN|hashCode|\\w+Exact|Random|Thread|System\\.(?!arraycopy)\\w+)\\b"
             + "|->|::|new \\w+\\([^;]*\\) \\{");
+    private static final Pattern METHOD = Pattern.compile("^ {4,8}(?! )(?!.*\\bclass\\b).*\\) \\{$");
     private static int wrong;
 
     public static void main(String[] args) throws Exception {
         face();
         namesOfPrivateMethods();
+        sizes();
         source();
         System.out.println("FaceTest: " + wrong + " not as due");
         if (wrong != 0) {
@@ -61,9 +63,6 @@ public final class FaceTest {
             if (!Modifier.isPrivate(f.getModifiers())) {
                 fields.add(f.getName());
             }
-            if (Modifier.isStatic(f.getModifiers())) {
-                due("final " + f.getName(), Modifier.isFinal(f.getModifiers()), true);
-            }
         }
         due("fields", fields, new TreeSet<>(List.of(CONSTANTS)));
         Constructor<?>[] made = DustLayers.class.getDeclaredConstructors();
@@ -90,9 +89,35 @@ public final class FaceTest {
         due("at most twelve classes", classes.size() < 12, true);
     }
 
+    /** LANGUAGE.md 5 and 11: static fields are final, some twenty others in a class, seven parameters. */
+    private static void sizes() {
+        List<Class<?>> classes = new ArrayList<>(List.of(DustLayers.class.getDeclaredClasses()));
+        classes.add(DustLayers.class);
+        for (Class<?> one : classes) {
+            int fields = 0;
+            for (Field f : one.getDeclaredFields()) {
+                boolean fixed = Modifier.isStatic(f.getModifiers());
+                fields += fixed ? 0 : 1;
+                due("final " + f, !fixed || Modifier.isFinal(f.getModifiers()), true);
+            }
+            due("at most twenty fields of " + one, fields <= 20, true);
+            for (Method m : one.getDeclaredMethods()) {
+                due("at most seven parameters of " + m, m.getParameterCount() <= 7, true);
+            }
+        }
+    }
+
     private static void source() throws Exception {
         List<String> lines = Files.readAllLines(Path.of("src/main/java/DustLayers.java"));
+        int began = 0;
         for (int k = 0; k < lines.size(); k++) {
+            if (lines.get(k).startsWith("import ")) {
+                due("line " + (k + 1), lines.get(k), "import java.util.Arrays;");
+            }
+            if (METHOD.matcher(lines.get(k)).find()) {
+                began = k;
+            }
+            due("line " + (k + 1) + " ends a method that is too long", lines.get(k).matches(" {4,8}}") && k - began > 60, false);
             String line = lines.get(k).replaceAll("//.*|/?\\*+ .*", "");
             Matcher found = RULED_OUT.matcher(line);
             due("line " + (k + 1), found.find() ? found.group() : "", "");
